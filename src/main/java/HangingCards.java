@@ -123,8 +123,7 @@ public final class HangingCards {
     public int counted(int county, int race, int hole, int hour, boolean machine) {
         if (!isCountyOrAll(county) || !isRace(race) || !isHole(hole) || !isHour(hour)) return BAD;
         tally.readIn(hour, machine);
-        tally.sum(county, race);
-        return tally.votesFor(hole);
+        return votesFor(hole, tally.sum(county, race));
     }
 
     public int vote(int card, int race, int hour, boolean machine) {
@@ -136,34 +135,34 @@ public final class HangingCards {
     public int winner(int race, int hour, boolean machine) {
         if (!isRace(race) || !isHour(hour)) return BAD;
         tally.readIn(hour, machine);
-        tally.sum(ALL, race);
-        return tally.ahead();
+        return winnerOf(tally.sum(ALL, race));
     }
 
     public int byRule(int race, int n) {
         if (!isRace(race) || !isRule(n)) return BAD;
         tally.readBy(n);
-        tally.sum(ALL, race);
-        return tally.ahead();
+        return winnerOf(tally.sum(ALL, race));
     }
 
     public int mixed(int race, int rules, int one) {
         if (!isRace(race) || !isRuleSet(rules) || one < -1 || one >= HOLES) return BAD_LEAD;
         mixtures.learn(tally, race);
-        return one < 0 ? mixtures.possibleWinners(rules) : mixtures.greatestLead(rules, one);
+        mixtures.tryAll(0, rules, Math.max(0, one));
+        return one < 0 ? mixtures.winners() : mixtures.lead();
     }
 
     public int turned(int race, int n, int rules) {
         if (!isRace(race) || !isRule(n) || !isRuleSet(rules)) return BAD;
         mixtures.learn(tally, race);
-        return mixtures.fewestTurned(n, rules);
+        if (mixtures.winnerBy(n) == NONE) return NO;
+        mixtures.tryAll(n, rules, 0);
+        return mixtures.fewest();
     }
 
     public int least(int race, int one, int hour) {
         if (!isRace(race) || !isHole(one) || !isHour(hour)) return BAD;
         tally.readIn(hour, false);
-        tally.sum(ALL, race);
-        return tally.fewestChanged(one);
+        return tally.fewestChanged(one, race);
     }
 
     public int meant(int card, int race, int what) {
@@ -345,6 +344,31 @@ public final class HangingCards {
     private static int onlyBit(int bits) {
         for (int hole = 0; hole < HOLES; hole++) {
             if (bits == 1 << hole) return hole;
+        }
+        return NONE;
+    }
+
+    // Votes of all four lie in one number, a byte each: so they are added at once, and 40 cards never fill a byte.
+
+    private static int oneVote(int one) {
+        return 1 << (8 * one);
+    }
+
+    private static int votesFor(int one, int votes) {
+        return votes >> (8 * one) & 255;
+    }
+
+    private static int leadOf(int one, int votes) {
+        int most = 0;
+        for (int other = 0; other < HOLES; other++) {
+            if (other != one) most = Math.max(most, votesFor(other, votes));
+        }
+        return votesFor(one, votes) - most;
+    }
+
+    private static int winnerOf(int votes) {
+        for (int one = 0; one < HOLES; one++) {
+            if (leadOf(one, votes) > 0) return one;
         }
         return NONE;
     }
@@ -780,7 +804,6 @@ public final class HangingCards {
         private final Orders orders;
         private final Reading reading = new Reading();
         private final Reading later = new Reading();
-        private final Row votes = new Row(HOLES);
 
         Tally(Pile pile, Orders orders) {
             this.pile = pile;
@@ -807,59 +830,37 @@ public final class HangingCards {
             return county == ALL || pile != null && pile.countyOf(card) == county;
         }
 
-        void sum(int county, int race) {
-            votes.fill(0);
+        int sum(int county, int race) {
+            int votes = 0;
             for (int card = 0; card < cards(); card++) {
                 int choice = isOf(card, county) ? choiceOf(card, race) : NONE;
-                if (choice != NONE) votes.add(choice, 1);
+                if (choice != NONE) votes += oneVote(choice);
             }
-        }
-
-        int votesFor(int one) {
-            return votes.get(one);
+            return votes;
         }
 
         int countingCards(int county, int race) {
-            sum(county, race);
+            int votes = sum(county, race);
             int all = 0;
-            for (int one = 0; one < HOLES; one++) all += votesFor(one);
+            for (int one = 0; one < HOLES; one++) all += votesFor(one, votes);
             return all;
         }
 
-        int ahead() {
-            return winnerOf(votesFor(0), votesFor(1), votesFor(2), votesFor(3));
-        }
-
-        static int winnerOf(int a, int b, int c, int d) {
-            for (int one = 0; one < HOLES; one++) {
-                if (leadOf(one, a, b, c, d) > 0) return one;
-            }
-            return NONE;
-        }
-
-        static int leadOf(int one, int a, int b, int c, int d) {
-            switch (one) {
-                case 0: return a - Math.max(b, Math.max(c, d));
-                case 1: return b - Math.max(a, Math.max(c, d));
-                case 2: return c - Math.max(a, Math.max(b, d));
-                default: return d - Math.max(a, Math.max(b, c));
-            }
-        }
-
-        int fewestChanged(int one) {
+        int fewestChanged(int one, int race) {
+            int votes = sum(ALL, race);
             for (int changed = 0; changed <= cards(); changed++) {
-                if (winsWith(one, changed)) return changed;
+                if (winsWith(one, votes, changed)) return changed;
             }
             return NONE;
         }
 
         /** Changed cards serve best if all of them come to count for the one, from those first who are too near. */
-        private boolean winsWith(int one, int changed) {
-            int own = votesFor(one) + changed;
+        private boolean winsWith(int one, int votes, int changed) {
+            int own = votesFor(one, votes) + changed;
             if (own < 1 || own > cards()) return false;
             int tooMany = 0;
             for (int other = 0; other < HOLES; other++) {
-                if (other != one) tooMany += Math.max(0, votesFor(other) - (own - 1));
+                if (other != one) tooMany += Math.max(0, votesFor(other, votes) - (own - 1));
             }
             return tooMany <= changed;
         }
@@ -881,7 +882,7 @@ public final class HangingCards {
 
     /** All mixtures of rules, each county by one of its own. */
     private static final class Mixtures {
-        private final Row votes = new Row(COUNTIES * RULES * HOLES);
+        private final Row votes = new Row(COUNTIES * RULES);
         private final Row choices = new Row(COUNTIES);
         private int base = 0;
         private int favoured = 0;
@@ -895,56 +896,46 @@ public final class HangingCards {
             for (int n = 1; n <= RULES; n++) {
                 tally.readBy(n);
                 for (int county = 0; county < COUNTIES; county++) {
-                    tally.sum(county, race);
-                    for (int one = 0; one < HOLES; one++) votes.set(place(county, n, one), tally.votesFor(one));
+                    votes.set(place(county, n), tally.sum(county, race));
                 }
             }
         }
 
-        private static int place(int county, int n, int one) {
-            return (county * RULES + n - 1) * HOLES + one;
+        private static int place(int county, int n) {
+            return county * RULES + n - 1;
         }
 
-        private int votesFor(int county, int n, int one) {
-            return votes.get(place(county, n, one));
-        }
-
-        int possibleWinners(int rules) {
-            tryAll(0, rules, 0);
+        int winners() {
             return winners;
         }
 
-        int greatestLead(int rules, int one) {
-            tryAll(0, rules, one);
+        int lead() {
             return lead;
         }
 
-        int fewestTurned(int n, int rules) {
-            standing = winnerBy(n);
-            if (standing == NONE) return NO;
-            tryAll(n, rules, 0);
+        int fewest() {
             return fewest;
         }
 
-        private int winnerBy(int n) {
-            return Tally.winnerOf(allFor(n, 0), allFor(n, 1), allFor(n, 2), allFor(n, 3));
-        }
-
-        private int allFor(int n, int one) {
+        int winnerBy(int n) {
             int all = 0;
-            for (int county = 0; county < COUNTIES; county++) all += votesFor(county, n, one);
-            return all;
+            for (int county = 0; county < COUNTIES; county++) all += votes.get(place(county, n));
+            return winnerOf(all);
         }
 
-        /** Tries each mixture of a base rule (0: none) and a set; bits tell the counties that leave the base. */
-        private void tryAll(int n, int rules, int one) {
+        /**
+         * Tries each mixture of a set and a base rule (0: none), from whose winner it may turn: who wins, the greatest
+         * lead of one, the fewest counties that leave the base.
+         */
+        void tryAll(int n, int rules, int one) {
             base = n;
+            standing = n == 0 ? NONE : winnerBy(n);
             favoured = one;
             winners = 0;
             lead = BAD_LEAD;
             fewest = NONE;
             for (int county = 0; county < COUNTIES; county++) choices.set(county, unlikeChoices(county, rules));
-            mix(0, 0, 0, 0, 0, 0);
+            mix(0, 0, 0);
         }
 
         /** Rules that count a county alike make the same mixtures, so that one of them is enough: the base, if it can be. */
@@ -958,39 +949,32 @@ public final class HangingCards {
 
         private boolean isCountedAlready(int county, int n, int chosen) {
             for (int other = 1; other <= RULES; other++) {
-                if (hasBit(chosen, other - 1) && countAlike(county, n, other)) return true;
+                boolean alike = votes.get(place(county, n)) == votes.get(place(county, other));
+                if (alike && hasBit(chosen, other - 1)) return true;
             }
             return false;
         }
 
-        private boolean countAlike(int county, int n, int other) {
-            for (int one = 0; one < HOLES; one++) {
-                if (votesFor(county, n, one) != votesFor(county, other, one)) return false;
-            }
-            return true;
-        }
-
-        /** Goes through the choices from one county on; a to d are the votes of the counties ahead of it. */
-        private void mix(int county, int bits, int a, int b, int c, int d) {
+        /** Goes through the choices from one county on, with the votes of the counties ahead of it. */
+        private void mix(int county, int bits, int ahead) {
             if (county >= COUNTIES) {
-                weigh(bits, a, b, c, d);
+                weigh(bits, ahead);
                 return;
             }
             for (int n = 1; n <= RULES; n++) {
                 if (hasBit(choices.get(county), n - 1)) {
-                    int leaving = base == 0 || n == base ? bits : bits | 1 << county;
-                    mix(county + 1, leaving, a + votesFor(county, n, 0), b + votesFor(county, n, 1),
-                        c + votesFor(county, n, 2), d + votesFor(county, n, 3));
+                    int leaving = n == base ? bits : bits | 1 << county;
+                    mix(county + 1, leaving, ahead + votes.get(place(county, n)));
                 }
             }
         }
 
-        private void weigh(int bits, int a, int b, int c, int d) {
-            lead = Math.max(lead, Tally.leadOf(favoured, a, b, c, d));
-            int winner = Tally.winnerOf(a, b, c, d);
+        private void weigh(int bits, int all) {
+            lead = Math.max(lead, leadOf(favoured, all));
+            int winner = winnerOf(all);
             if (winner == NONE) return;
             winners |= 1 << winner;
-            if (base != 0 && winner != standing && isFewer(bits)) fewest = bits;
+            if (winner != standing && isFewer(bits)) fewest = bits;
         }
 
         private boolean isFewer(int bits) {
@@ -1058,6 +1042,7 @@ public final class HangingCards {
         private final People listed = new People(LISTED);
         private final People voters = new People(VOTERS);
         private final Row alikenesses = new Row(VOTERS * LISTED);
+        private final Row strengths = new Row(VOTERS * LISTED);
         private final Row strikers = new Row(VOTERS);
         private int threshold = 80;
 
@@ -1073,11 +1058,14 @@ public final class HangingCards {
             return voter;
         }
 
-        /** Names never change, so that a pair is compared just once. */
+        /** Names and days never change, so that a pair is compared just once; days told unlike leave no strength. */
         private void compare(int voter, int one) {
             if (!hasVoter(voter) || !hasListed(one)) return;
             int longer = Math.max(voters.nameLength(voter), listed.nameLength(one));
-            alikenesses.set(pair(voter, one), longer < 1 ? 0 : 100 * sameLetters(voter, one) / longer);
+            int alikeness = longer < 1 ? 0 : 100 * sameLetters(voter, one) / longer;
+            boolean daysAllow = isDayUntold(voter, one) || voters.dayOf(voter) == listed.dayOf(one);
+            alikenesses.set(pair(voter, one), alikeness);
+            strengths.set(pair(voter, one), daysAllow ? alikeness : 0);
         }
 
         private static int pair(int voter, int one) {
@@ -1123,18 +1111,14 @@ public final class HangingCards {
             return voters.dayOf(voter) < 0 || listed.dayOf(one) < 0;
         }
 
-        private boolean isStruckBy(int voter, int one) {
-            boolean daysAllow = isDayUntold(voter, one) || voters.dayOf(voter) == listed.dayOf(one);
-            return daysAllow && alikeness(voter, one) >= threshold;
-        }
-
+        /** A likeness asked for is 1 at least, so that nobody is struck without strength. */
         int struckAs(int voter) {
             int found = NONE;
-            int most = 0;
+            int most = threshold - 1;
             for (int one = 0; one < listed.size(); one++) {
-                if (isStruckBy(voter, one) && (found == NONE || alikeness(voter, one) > most)) {
+                if (strengths.get(pair(voter, one)) > most) {
                     found = one;
-                    most = alikeness(voter, one);
+                    most = strengths.get(pair(voter, one));
                 }
             }
             return found;
@@ -1170,7 +1154,7 @@ public final class HangingCards {
         private int strikersOf(int voter) {
             int bits = 0;
             for (int one = 0; one < listed.size(); one++) {
-                if (isStruckBy(voter, one)) bits |= 1 << one;
+                if (strengths.get(pair(voter, one)) >= threshold) bits |= 1 << one;
             }
             return bits;
         }
