@@ -15,10 +15,13 @@ public final class HangingCards {
     private static final int HOURS = 1000;
     private static final int BYTES = 200;
     private static final int ITEMS = 40;
+
+    // The kinds of items, by the numbers that rule and why give them
     private static final int HAND = 0;
     private static final int DIMPLES = 1;
     private static final int MACHINE = 2;
     private static final int ORDER = 3;
+
     private static final int RANKS = 4;
     private static final int RULES = 5;
     private static final int RULE_SETS = 32;

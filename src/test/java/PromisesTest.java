@@ -32,6 +32,7 @@ public final class PromisesTest {
         coulds();
         tables();
         keeping();
+        goneCards();
         counts();
         check.end("PromisesTest");
     }
@@ -670,6 +671,22 @@ public final class PromisesTest {
         due(2, "a number again", 1, x.card(3, h("0000 0000 0003")));
         due(3, "as told now", 3, x.hole(1, 2, 3));
         due(13, "of its county", 1, with(3, "0000 0000 0005").counted(3, 2, 3, 0, false));
+    }
+
+    private static void goneCards() {
+        HangingCards x = with(0, "1000 0000 0000");
+        x.keep();
+        x.card(0, h("5555 0500 0001"));
+        x.back();
+        due(35, "a card that is gone is not counted", 0, x.counted(5, 1, 1, 0, false));
+        due(35, "nor in its county", 0, x.counted(0, 1, 1, 0, false));
+        due(35, "it wins nothing", NONE, x.winner(1, 0, false));
+        due(35, "by no rule", NONE, x.byRule(1, 5));
+        due(35, "its holes are not told", 1, x.count(1));
+        Check.force(x, "v5,1,5;");
+        due(35, "it does not count otherwise", 0, x.otherwise(5, 2, 4, 5));
+        due(35, "the other one does", 1, x.otherwise(5, 0, 4, 5));
+        due(35, "none is run", 0, x.run(0, 1, 0));
     }
 
     private static void counts() {

@@ -99,6 +99,7 @@ public final class SourceTest {
             none(11, "more than twenty fields in " + one.getName(), Math.max(0, fields - 20));
             for (Method m : one.getDeclaredMethods()) {
                 none(11, "more than seven parameters: " + m.getName(), Math.max(0, m.getParameterCount() - 7));
+                for (String called : FACE) none(1, "a public one's name: " + m, called.startsWith("int " + m.getName() + "(") ? 1 : 0);
             }
         }
     }
