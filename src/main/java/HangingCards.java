@@ -1262,7 +1262,6 @@ public final class HangingCards {
 
         /** Goes through the table from g on, made for all hours to ahead of t, to ahead of an end. */
         void work(int g, int t, int k, int end) {
-            placed.fill(0);
             for (int county = 0; county < COUNTIES; county++) {
                 todo.set(county, workOf(county));
                 hoursAhead.set(county, openHours(county, g, t));
@@ -1285,26 +1284,24 @@ public final class HangingCards {
         private void placeHands(int hour, int k) {
             placed.fill(0);
             int free = k;
-            int past = closed.get(hour);
             for (int turn = 0; turn < COUNTIES && free > 0; turn++) {
-                int county = scarcest(past);
+                int county = scarcest(hour);
                 if (county == NONE) break;
                 int many = Math.min(free, todo.get(county));
                 placed.set(county, many);
                 todo.add(county, -many);
                 free -= many;
-                past |= 1 << county;
             }
             for (int county = 0; county < COUNTIES; county++) {
                 if (isOpen(county, hour)) hoursAhead.add(county, -1);
             }
         }
 
-        /** Of the counties that are not past and have work left the one with the fewest open hours ahead. */
-        private int scarcest(int past) {
+        /** Who has had hands in the hour waits no more: either its work is done or no hands are free. */
+        private int scarcest(int hour) {
             int found = NONE;
             for (int county = 0; county < COUNTIES; county++) {
-                boolean waits = !hasBit(past, county) && todo.get(county) > 0;
+                boolean waits = isOpen(county, hour) && todo.get(county) > 0;
                 if (waits && (found == NONE || hoursAhead.get(county) < hoursAhead.get(found))) found = county;
             }
             return found;

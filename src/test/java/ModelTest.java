@@ -7,16 +7,18 @@ public final class ModelTest {
     private final HangingCards x = new HangingCards();
     private final Model m = new Model();
     private int calls = 0;
+    private final int kind;
     private final int cardLimit;
 
-    private ModelTest(int cardLimit) {
+    private ModelTest(int kind, int cardLimit) {
+        this.kind = kind;
         this.cardLimit = cardLimit;
     }
 
     public static void main(String[] args) {
         for (int run = 0; run < RUNS; run++) {
             seed = run * 7919L + 1;
-            new ModelTest(run % 4 == 0 ? 40 : 1 + run % 13).play(run % 5);
+            new ModelTest(run % 5, run % 4 == 0 ? 40 : 1 + run % 13).play();
         }
         check.end("ModelTest");
     }
@@ -46,7 +48,7 @@ public final class ModelTest {
         check.due("call " + calls + " " + what, want, got);
     }
 
-    private void play(int kind) {
+    private void play() {
         while (calls < 480) {
             switch (kind == 4 ? below(4) : chance(8) ? below(4) : kind) {
                 case 0: cards(); break;
@@ -70,7 +72,8 @@ public final class ModelTest {
         return chance(4) ? about(0, 999) : chance(2) ? below(30) : 5 * below(4);
     }
 
-    private static String item() {
+    private String item() {
+        if (kind == 3 && !chance(6)) return order();
         int c = chance(60) ? 6 : below(6);
         int h = chance(60) ? 1000 : Math.floorMod(hour(), 1000);
         switch (below(5)) {
@@ -81,10 +84,15 @@ public final class ModelTest {
         }
     }
 
+    /** Courts of two ranks that stop and go on, so that the counties' hours are unlike. */
+    private static String order() {
+        return "o" + below(chance(5) ? 6 : 5) + "," + (chance(4) ? 1 : 0) + "," + below(2) + "," + below(30) + ";";
+    }
+
     private void newText() {
         if (!chance(4)) due("wipe", m.wipe(), x.wipe());
         StringBuilder text = new StringBuilder();
-        int items = below(9);
+        int items = kind == 3 ? below(18) : below(9);
         for (int i = 0; i < items; i++) text.append(item());
         if (chance(8) && text.length() > 0) text.setCharAt(below(text.length()), "v,;0a9:/ d".charAt(below(10)));
         if (chance(12) && text.length() > 0) text.deleteCharAt(below(text.length()));
@@ -213,7 +221,7 @@ public final class ModelTest {
     // lists
 
     private static long name() {
-        StringBuilder name = new StringBuilder(new String[] {"abcdefgh", "abcde", "abc", "", "ab"}[below(5)]);
+        StringBuilder name = new StringBuilder(new String[] {"abcdefgh", "abcde", "abc", "", "ab", "a"}[below(6)]);
         for (int i = 0; i < 2 && name.length() > 0; i++) {
             if (chance(2)) name.setCharAt(below(name.length()), (char) ('a' + below(4)));
         }
@@ -282,12 +290,12 @@ public final class ModelTest {
         int t = chance(8) ? about(0, 1000) : g > 900 ? 1000 : g + about(0, 25);
         int k = chance(2) ? about(1, 3) : about(1, 20);
         if (t - (long) g > 60 && !chance(30)) return;
-        switch (below(8)) {
+        switch (below(10)) {
             case 0: case 1: boxes(); break;
             case 2: case 3: due("could", m.could(g, t, k), x.could(g, t, k)); break;
             case 4: due("hands", m.hands(g, t), x.hands(g, t)); break;
             case 5: if (chance(6)) due("soonest", m.soonest(g, k), x.soonest(g, k)); break;
-            case 6: table(g, t, k); break;
+            case 6: case 7: case 8: table(g, t, k); break;
             default: due("left", m.left(g, t, k), x.left(g, t, k)); break;
         }
     }

@@ -177,7 +177,7 @@ public final class PromisesTest {
         String[] faulty = {";", "v", "v;", "v0;", "v0,1;", "v0,1,0", "v0,1,0,0;", "v0,0,0;", "v0,6,0;", "v6,1,0;",
             "v0,1,1000;", "v0001,1,0;", "v0,,0;", "v,1,0;", "v0,1,;", "v0 ,1,0;", "v-1,1,0;", "V0,1,0;", "d0,13,0;",
             "d6,1,0;", "m1,0;", "m6,0;", "m2;", "m2,0,0;", "o0,4,0,0;", "o6,0,0,0;", "o0,0,2,0;", "o0,0,0;",
-            "x0,1,0;", "v0,1,0:", "v0;1,0;", " v0,1,0;", "0", "v0.1,0;", "\u00ff", "vv0,1,0;", "v/,1,0;", "v0,1,0:;"};
+            "x0,1,0;", "v0,1,0:", "v0;1,0;", " v0,1,0;", "0", "x;", "x1;", "z0,1;", "v0.1,0;", "\u00ff", "vv0,1,0;", "v/,1,0;", "v0,1,0:;"};
         for (String text : faulty) fault(text, 0);
         fault("v0,1,0;m2,0;v6,1,0;", 12);
         fault("v0,1,0;m2,0", 7);
@@ -416,6 +416,7 @@ public final class PromisesTest {
         meant("0001 0000 0000", 0, 8, 3);
         meant("0000 0050 0050", 0, 4, 2);
         meant("0000 0050 0500", 0, 0, NONE);
+        meant("0000 5000 5000", 0, 1, 0);
         meant("0000 0050 0000", 0, 0, NONE);
         meant("0000 0050 0051", 0, 0, NONE);
         meant("0000 0055 0055", 0, 0, NONE);
@@ -489,6 +490,11 @@ public final class PromisesTest {
         due(25, "two of three, cut", 66, y.like(0, 0));
         due(25, "three of seven, cut", 42, y.like(0, 1));
         due(25, "all", 100, y.like(0, 2));
+        y.voter(n("q"), 0, 0);
+        y.listed(n("q"), 0);
+        y.listed(n("r"), 0);
+        due(25, "one letter", 100, y.like(1, 3));
+        due(25, "another letter", 0, y.like(1, 4));
     }
 
     private static void strikes() {
@@ -642,6 +648,22 @@ public final class PromisesTest {
         due(29, "it could be done", 1, z.could(0, 4, 1));
         due(33, "but not by the table", 1, z.left(0, 4, 1));
         due(32, "the lowest of two", 1, z.table(0, 4, 1, 0, 0));
+        HangingCards v = new HangingCards();
+        for (int county = 0; county < 5; county++) v.boxes(county, 0, 1);
+        for (int county = 0; county < 5; county++) due(32, "hands in all counties", 1, v.table(0, 1, 5, 0, county));
+        due(33, "all is done in an hour", 0, v.left(0, 1, 5));
+        HangingCards w = new HangingCards();
+        w.boxes(0, 0, 9);
+        w.boxes(1, 0, 9);
+        Check.force(w, "o0,0,0,0;o0,0,1,5;");
+        due(32, "who is alone", 1, w.table(0, 10, 1, 4, 1));
+        due(32, "as few hours from that one on, the lowest", 1, w.table(0, 10, 1, 5, 0));
+        Check.force(w, "o0,0,0,0;o0,0,1,5;o1,0,0,9;");
+        due(32, "fewer hours from that one on", 1, w.table(0, 10, 1, 5, 1));
+        due(32, "not of all hours", 0, w.table(0, 10, 1, 5, 0));
+        Check.force(w, "o1,0,0,1;o1,0,1,5;o1,0,0,8;");
+        due(32, "four hours to nine", 0, w.table(0, 9, 1, 0, 0));
+        due(32, "three to four", 1, w.table(0, 9, 1, 5, 1));
     }
 
     private static void keeping() {
