@@ -320,9 +320,9 @@ public final class HangingCards {
         return k >= 1 && k <= MOST_HANDS;
     }
 
-    /** An hour that ends a span is not worked in, so it may stand behind the last one. */
+    /** What ends a span is not worked in, so it may stand behind the last hour; what begins it is an hour itself. */
     private static boolean isSpan(int g, int t) {
-        return g >= 0 && g <= t && t <= HOURS;
+        return isHour(g) && g <= t && t <= HOURS;
     }
 
     private static boolean isName(long name) {

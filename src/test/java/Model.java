@@ -493,7 +493,7 @@ final class Model {
     }
 
     private static boolean span(int g, int t) {
-        return g >= 0 && g <= t && t <= 1000;
+        return in(g, 0, 999) && g <= t && t <= 1000;
     }
 
     int could(int g, int t, int k) {

@@ -597,14 +597,22 @@ public final class PromisesTest {
         due(31, "from 4 on", 13, x.soonest(4, 20));
         due(31, "at the end", 1000, x.soonest(999, 10));
         due(31, "past the end", NONE, x.soonest(999, 9));
-        int[][] wrong = {{-1, 0, 1}, {1, 0, 1}, {0, 1001, 1}, {0, 1, 0}, {0, 1, 21}, {0, -1, 1}};
+        int[][] wrong = {{-1, 0, 1}, {1, 0, 1}, {0, 1001, 1}, {1000, 1000, 1}, {1001, 1001, 1}, {1000, 999, 1}, {0, 1, 0},
+            {0, 1, 21}, {0, -1, 1}};
         for (int[] w : wrong) due(29, "wrong", BAD, x.could(w[0], w[1], w[2]));
-        int[][] wrongSpans = {{-1, 0}, {1, 0}, {0, 1001}, {5, 4}};
+        int[][] wrongSpans = {{-1, 0}, {1, 0}, {0, 1001}, {5, 4}, {1000, 1000}, {1001, 1001}, {1000, 999}};
         for (int[] w : wrongSpans) due(30, "wrong", BAD, x.hands(w[0], w[1]));
-        int[][] wrongStarts = {{-1, 1}, {1001, 1}, {0, 0}, {0, 21}};
+        int[][] wrongStarts = {{-1, 1}, {1000, 1}, {1001, 1}, {0, 0}, {0, 21}};
         for (int[] w : wrongStarts) due(31, "wrong", BAD, x.soonest(w[0], w[1]));
         HangingCards y = new HangingCards();
         due(29, "nothing to do", 1, y.could(5, 5, 1));
+        int[][] ends = {{999, 999}, {999, 1000}};
+        for (int[] e : ends) {
+            due(29, "the last hour", 1, y.could(e[0], e[1], 1));
+            due(30, "the last hour", 1, y.hands(e[0], e[1]));
+            due(33, "the last hour", 0, y.left(e[0], e[1], 1));
+        }
+        due(31, "the last hour", 999, y.soonest(999, 1));
         due(30, "nothing to do", 1, y.hands(5, 5));
         due(31, "nothing to do", 5, y.soonest(5, 1));
         y.boxes(3, 0, 21);
@@ -633,9 +641,10 @@ public final class PromisesTest {
         due(32, "no more than its work", 5, x.table(0, 1, 20, 0, 2));
         due(32, "as many as there are yet", 1, x.table(0, 1, 4, 0, 1));
         int[][] wrong = {{-1, 4, 1, 0, 0}, {0, 1001, 1, 0, 0}, {2, 1, 1, 1, 0}, {0, 4, 0, 0, 0}, {0, 4, 21, 0, 0},
-            {1, 4, 1, 0, 0}, {0, 4, 1, 4, 0}, {0, 4, 1, 0, -1}, {0, 4, 1, 0, 5}, {3, 3, 1, 3, 0}};
+            {1, 4, 1, 0, 0}, {0, 4, 1, 4, 0}, {0, 4, 1, 0, -1}, {0, 4, 1, 0, 5}, {3, 3, 1, 3, 0},
+            {1000, 1000, 1, 1000, 0}, {999, 1000, 1, 1000, 0}};
         for (int[] w : wrong) due(32, "wrong", BAD, x.table(w[0], w[1], w[2], w[3], w[4]));
-        int[][] wrongSpans = {{-1, 4, 1}, {0, 1001, 1}, {2, 1, 1}, {0, 4, 0}, {0, 4, 21}};
+        int[][] wrongSpans = {{-1, 4, 1}, {0, 1001, 1}, {2, 1, 1}, {1000, 1000, 1}, {1001, 1001, 1}, {0, 4, 0}, {0, 4, 21}};
         for (int[] w : wrongSpans) due(33, "wrong", BAD, x.left(w[0], w[1], w[2]));
         HangingCards y = new HangingCards();
         y.boxes(4, 0, 500);
