@@ -196,6 +196,13 @@ public final class CountsBoundaryTest extends Boundary {
             }
         }
         due("v does not hinder", 3, made(forced("v5,5,0;"), cards(4, "0001 0000 0000")).byRule(0, 1));
+        HangingCards x = made(forced("d5,1,0;"), cards(4, "0001 0000 0000"));
+        due("by d", 3, x.winner(0, 0, false));
+        due("behind that by rule 2", NONE, x.byRule(0, 2));
+        due("by d again", 3, x.vote(0, 0, 0, false));
+        due("behind that none in a mixture of rules 2 to 5", 0, x.mixed(0, 30, -1));
+        due("by d again", 3, x.vote(0, 0, 0, false));
+        due("behind that none to be turned", NO, x.turned(0, 2, 30));
     }
 
     @Says(promise = 16, value = "BY EACH: WINNERS of a RACE by rules 1 to 5, the same in all COUNTIES.")
@@ -302,6 +309,10 @@ public final class CountsBoundaryTest extends Boundary {
         due("four", 15, made(each, cards(3, 0, "5000 0000 0000")).turned(0, 5, 8));
         Play fewer = cards(2, "5000 0000 0000", 0, "0400 0000 0000", 1, "0400 0000 0000", 4, "0400 0000 0000", 4, "0400 0000 0000");
         due("fewer ahead of less bits", 16, made(fewer).turned(0, 5, 8));
+        Play fewerByAHigherRule = both(cards(3, 3, "0500 0000 0000"),
+            cards(0, "4000 0000 0000", 1, "4000 0000 0000", 4, "4000 0000 0000", 4, "4000 0000 0000"));
+        due("fewer by a higher rule", 16, made(fewerByAHigherRule).turned(0, 4, 16));
+        due("fewer by any rule", 16, made(fewerByAHigherRule).turned(0, 3, 31));
     }
 
     @Says(promise = 18, value = "(of several the least bits)")
@@ -314,6 +325,18 @@ public final class CountsBoundaryTest extends Boundary {
         due("three of four", 14, made(two, cards(5, 0, "5000 0000 0000")).turned(0, 5, 8));
         due("four of four", 30, made(two, cards(7, 0, "5000 0000 0000")).turned(0, 5, 8));
         refused("none", NONE, both(two, cards(8, 0, "5000 0000 0000")), x -> x.turned(0, 5, 8));
+        Play leave = x -> {
+            for (int county = 4; county > 0; county--) cards(2, county, "4000 0000 0000").on(x);
+        };
+        due("one of four by a higher rule", 2, made(leave, cards(7, 0, "0500 0000 0000")).turned(0, 4, 16));
+        due("two of four", 6, made(leave, cards(5, 0, "0500 0000 0000")).turned(0, 4, 16));
+        due("three of four", 14, made(leave, cards(3, 0, "0500 0000 0000")).turned(0, 4, 16));
+        due("four of four", 30, made(leave, cards(1, 0, "0500 0000 0000")).turned(0, 4, 16));
+        refused("none", NONE, leave, x -> x.turned(0, 4, 16));
+        HangingCards x = made(two, cards(3, 0, "5000 0000 0000"));
+        due("asked of one object", 6, x.turned(0, 5, 8));
+        due("none behind it", NONE, x.turned(0, 5, 16));
+        due("again", 6, x.turned(0, 5, 9));
     }
 
     // least
@@ -345,7 +368,11 @@ public final class CountsBoundaryTest extends Boundary {
         due("one behind", 1, made(votes(19, 20)).least(0, 0, 0));
         due("two behind", 2, made(votes(19, 21)).least(0, 0, 0));
         due("two behind with a card for nobody", 2, made(votes(18, 20, 0, 0, 1)).least(0, 0, 0));
-        due("all 40 for another one", 21, made(votes(40)).least(0, 3, 0));
+        for (int one = 0; one < 4; one++) {
+            int[] many = new int[4];
+            many[one] = 40;
+            for (int other = 0; other < 4; other++) due("all 40", other == one ? 0 : 21, made(votes(many)).least(0, other, 0));
+        }
         due("39", 20, made(votes(39)).least(0, 3, 0));
         due("all 40 for nobody", 1, made(votes(0, 0, 0, 0, 40)).least(0, 2, 0));
         due("three each for two", 3, made(votes(3, 3, 0, 0)).least(0, 2, 0));

@@ -130,6 +130,14 @@ public final class HoursBoundaryTest extends Boundary {
         due("the last hour", 1, made(forced("o5,3,0,0;o5,3,1,999;"), heaps(20)).could(0, 1000, 20));
         due("ahead of it", 0, made(forced("o5,3,0,0;o5,3,1,999;"), heaps(20)).could(0, 999, 20));
         due("others go on", 1, made(forced("o0,0,0,0;"), heaps(0, 20)).could(0, 1, 20));
+        for (int county = 0; county < 5; county++) {
+            int[] heap = new int[5];
+            heap[county] = 1;
+            due("just there it stops", 0, made(forced("o" + county + ",0,0,7;"), heaps(heap)).could(7, 1000, 20));
+            due("an hour sooner it goes on", 1, made(forced("o" + county + ",0,0,7;"), heaps(heap)).could(6, 1000, 20));
+            due("in the next county it goes on", 1, made(forced("o" + (county + 1) % 5 + ",0,0,7;"), heaps(heap)).could(7, 8, 1));
+            due("in all it stops", 0, made(forced("o5,0,0,7;"), heaps(heap)).could(7, 1000, 20));
+        }
         Play together = both(forced("o0,0,0,1;o1,0,0,1;o2,0,0,0;o2,0,1,1;o2,0,0,2;"), heaps(2, 2, 4));
         due("two share an hour", 1, made(together).could(0, 9, 4));
         due("a hand less", 0, made(together).could(0, 9, 3));
@@ -237,6 +245,29 @@ public final class HoursBoundaryTest extends Boundary {
         Play twoOfThree = both(both, forced("o1,0,0,1;o1,0,1,2;"));
         hands(made(twoOfThree), new int[] {0, 3, 1}, new int[][] {{0, 1}, {1, 0}, {1, 0}});
         hands(made(heaps(0, 0, 0, 1, 1)), new int[] {0, 2, 1}, new int[][] {{0, 0, 0, 1, 0}, {0, 0, 0, 0, 1}});
+        for (int one = 0; one < 5; one++) {
+            for (int other = 0; other < 5; other++) {
+                if (one != other) fewestOfTwo(one, other);
+            }
+        }
+    }
+
+    /** One has no hours ahead of 2, the other has hours all the time: from 2 on both have as many, so that the lowest is first. */
+    private static void fewestOfTwo(int one, int other) {
+        int[] heap = new int[5];
+        heap[one] = 9;
+        heap[other] = 9;
+        int[][] due = new int[4][5];
+        due[0][other] = 1;
+        due[1][other] = 1;
+        due[2][Math.min(one, other)] = 1;
+        due[3][Math.min(one, other)] = 1;
+        hands(made(heaps(heap), forced("o" + one + ",0,0,0;o" + one + ",0,1,2;")), new int[] {0, 4, 1}, due);
+        due[2] = new int[5];
+        due[3] = new int[5];
+        due[2][one] = 1;
+        due[3][other] = 1;
+        hands(made(heaps(heap), forced("o" + one + ",0,0,0;o" + one + ",0,1,2;o" + one + ",0,0,3;")), new int[] {0, 4, 1}, due);
     }
 
     @Says(promise = 32, value = "THE TABLE for g, t, k: HOUR by HOUR, in that HOUR by COUNTIES in which counting goes on:")

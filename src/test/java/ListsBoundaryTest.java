@@ -152,6 +152,36 @@ public final class ListsBoundaryTest extends Boundary {
         due("the first of both", 100, made(voter("a", 0), listed("a", 0)).like(0, 0));
     }
 
+    private static String signs(int length, int step) {
+        StringBuilder name = new StringBuilder();
+        for (int place = 0; place < length; place++) name.append((char) ('a' + step * (place + 1) % 3));
+        return name.toString();
+    }
+
+    @Says(promise = 25, value = {"LISTED 0 to 7, VOTERS 0 to 11", "places with the same letter, by hundred of the longer one's length, cut."})
+    static void promise25_eachVoterAndEachListedOne() {
+        String[] voters = new String[12];
+        String[] listed = new String[8];
+        for (int voter = 0; voter < 12; voter++) voters[voter] = signs(1 + voter % 8, voter);
+        for (int one = 0; one < 8; one++) listed[one] = signs(8 - one % 3, 7 - one);
+        HangingCards x = new HangingCards();
+        for (int turn = 0; turn < 12; turn++) {
+            x.voter(n(voters[turn]), 0, 0);
+            if (turn < 8) x.listed(n(listed[turn]), 0);
+        }
+        for (int voter = 0; voter < 12; voter++) {
+            for (int one = 0; one < 8; one++) {
+                int same = 0;
+                int shorter = Math.min(voters[voter].length(), listed[one].length());
+                for (int place = 0; place < shorter; place++) {
+                    if (voters[voter].charAt(place) == listed[one].charAt(place)) same++;
+                }
+                int longer = Math.max(voters[voter].length(), listed[one].length());
+                due("voter " + voter + ", listed " + one, 100 * same / longer, x.like(voter, one));
+            }
+        }
+    }
+
     private static void like(String one, String other, int want) {
         due(one + " and " + other, want, made(voter(one, 0), listed(other, 1)).like(0, 0));
         due(other + " and " + one, want, made(listed(one, 0), voter(other, 1)).like(0, 0));
@@ -238,6 +268,9 @@ public final class ListsBoundaryTest extends Boundary {
         struck("abcde", -1, "abcde", 0, 1);
         struck("abcde", 0, "abcde", -1, 1);
         struck("abcde", -1, "abcde", -1, 1);
+        Play unlike = both(both(voter("abcde", 5), listed("abcde", 6)), likeness(1));
+        refused("told unlike, by 1", NONE, unlike, x -> x.struck(0, 0));
+        due("nor PAIRED", 0, made(unlike).strikes(5, 2));
     }
 
     @Says(promise = 26, value = "RIGHTLY: NAME and DAY of both are alike (DAYS told); MAY BE: else, if one of both DAYS is not told.")
@@ -325,8 +358,24 @@ public final class ListsBoundaryTest extends Boundary {
             few.voter(n("abcde"), 5, 0);
         }
         due("eight", 8, few.strikes(5, 2));
+        for (int one = 0; one < 8; one++) justOneStrikes(one);
         few.voter(n("abcde"), 5, 0);
         due("no more", 8, few.strikes(5, 2));
+    }
+
+    /** Of eight just one strikes three, the last voter among them: one is PAIRED. */
+    private static void justOneStrikes(int striker) {
+        HangingCards x = new HangingCards();
+        for (int one = 0; one < 8; one++) x.listed(n(one == striker ? "abcde" : "vwxyz"), 5);
+        for (int voter = 0; voter < 9; voter++) x.voter(n("klmno"), 5, 0);
+        due("nobody is struck", 0, x.strikes(5, 2));
+        for (int voter = 9; voter < 11; voter++) x.voter(n("klmno"), 5, 0);
+        x.voter(n("abcde"), 5, 0);
+        due("the 12th is", 1, x.strikes(5, 2));
+        HangingCards three = new HangingCards();
+        for (int one = 0; one < 8; one++) three.listed(n(one == striker ? "abcde" : "vwxyz"), 5);
+        for (int voter = 0; voter < 3; voter++) three.voter(n("abcde"), 5, 0);
+        due("one of three", 1, three.strikes(5, 2));
     }
 
     @Says(promise = 27, value = "each with a LISTED one of its own by which it is STRUCK")

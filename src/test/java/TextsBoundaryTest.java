@@ -215,6 +215,8 @@ public final class TextsBoundaryTest extends Boundary {
             String three = letter + "2,2,0;";
             String two = letter + "2,0;";
             String four = letter + "2,2,1,0;";
+            due("none behind " + (int) letter, 0, made(written(letter + ";")).fault());
+            due("one behind " + (int) letter, 0, made(written(letter + "2;")).fault());
             boolean ofThree = letter == 'v' || letter == 'd';
             due("three behind " + (int) letter, ofThree ? NONE : 0, made(written(three)).fault());
             due("two behind " + (int) letter, letter == 'm' ? NONE : 0, made(written(two)).fault());
