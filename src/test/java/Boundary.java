@@ -36,7 +36,8 @@ abstract class Boundary {
             play(one.getValue());
             boolean passed = wrong == 0 && answers > 0;
             if (!passed) failed++;
-            System.out.println("  " + test + (passed ? ": " + answers + " as due" : ": FAILED, " + wrong + " of " + answers));
+            String told = passed ? ": " + answers + " as due" : ": FAILED, " + wrong + " of " + answers;
+            System.out.println("  " + test + told + wordsOf(one.getValue()));
         }
         System.out.println(tests.getName() + ": " + all.size() + " tests, " + failed + " failed");
         if (failed != 0 || all.isEmpty()) System.exit(1);
@@ -49,6 +50,11 @@ abstract class Boundary {
             if (isTest) all.put(one.getName(), one);
         }
         return all;
+    }
+
+    private static String wordsOf(Method one) {
+        Says says = one.getAnnotation(Says.class);
+        return says == null ? "" : ", \"" + String.join("\", \"", says.value()) + "\"";
     }
 
     private static void play(Method one) {

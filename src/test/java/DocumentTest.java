@@ -70,13 +70,13 @@ public final class DocumentTest {
         for (String words : says.value()) {
             boolean inTerms = terms.quote(plain(words));
             boolean inPromise = promises.get(says.promise() - 1).quote(plain(words));
-            check.due(test.getName() + ": the document says «" + words + "»", 1, inTerms || inPromise ? 1 : 0);
+            check.due(test.getName() + ": the document says \"" + words + "\"", 1, inTerms || inPromise ? 1 : 0);
         }
     }
 
     private static void noWordLeft(String where, Piece piece) {
         String rest = piece.unquoted();
-        check.due(where + ": words without a test «" + rest + "»", 0, rest.length());
+        check.due(where + ": words without a test \"" + rest + "\"", 0, rest.length());
     }
 
     /** Without fences, the numbers of parts and what is left between two lines. */

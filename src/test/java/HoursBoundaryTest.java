@@ -136,6 +136,11 @@ public final class HoursBoundaryTest extends Boundary {
             due("just there it stops", 0, made(forced("o" + county + ",0,0,7;"), heaps(heap)).could(7, 1000, 20));
             due("an hour sooner it goes on", 1, made(forced("o" + county + ",0,0,7;"), heaps(heap)).could(6, 1000, 20));
             due("in the next county it goes on", 1, made(forced("o" + (county + 1) % 5 + ",0,0,7;"), heaps(heap)).could(7, 8, 1));
+            Play alone = forced("o5,0,0,0;o" + county + ",0,1,0;");
+            due("there alone it goes on", 1, made(alone, heaps(heap)).could(0, 1, 1));
+            heap[county] = 20;
+            due("with all hands there", 20, made(alone, heaps(heap)).hands(0, 1));
+            heap[county] = 1;
             due("in all it stops", 0, made(forced("o5,0,0,7;"), heaps(heap)).could(7, 1000, 20));
         }
         Play together = both(forced("o0,0,0,1;o1,0,0,1;o2,0,0,0;o2,0,1,1;o2,0,0,2;"), heaps(2, 2, 4));
@@ -252,22 +257,25 @@ public final class HoursBoundaryTest extends Boundary {
         }
     }
 
-    /** One has no hours ahead of 2, the other has hours all the time: from 2 on both have as many, so that the lowest is first. */
-    private static void fewestOfTwo(int one, int other) {
+    /** Who is first in hours 0 to 3 by one hand, when counting in both stops and goes on as a text says. */
+    private static void first(int one, int other, String text, int... due) {
         int[] heap = new int[5];
         heap[one] = 9;
         heap[other] = 9;
-        int[][] due = new int[4][5];
-        due[0][other] = 1;
-        due[1][other] = 1;
-        due[2][Math.min(one, other)] = 1;
-        due[3][Math.min(one, other)] = 1;
-        hands(made(heaps(heap), forced("o" + one + ",0,0,0;o" + one + ",0,1,2;")), new int[] {0, 4, 1}, due);
-        due[2] = new int[5];
-        due[3] = new int[5];
-        due[2][one] = 1;
-        due[3][other] = 1;
-        hands(made(heaps(heap), forced("o" + one + ",0,0,0;o" + one + ",0,1,2;o" + one + ",0,0,3;")), new int[] {0, 4, 1}, due);
+        int[][] table = new int[4][5];
+        for (int hour = 0; hour < 4; hour++) table[hour][due[hour]] = 1;
+        hands(made(heaps(heap), forced(text)), new int[] {0, 4, 1}, table);
+    }
+
+    private static void fewestOfTwo(int one, int other) {
+        String oneStops = "o" + one + ",0,0,";
+        String oneGoesOn = "o" + one + ",0,1,";
+        int lowest = Math.min(one, other);
+        first(one, other, oneStops + "0;" + oneGoesOn + "2;", other, other, lowest, lowest);
+        first(one, other, oneStops + "0;" + oneGoesOn + "2;" + oneStops + "3;", other, other, one, other);
+        first(one, other, oneStops + "0;" + oneGoesOn + "1;o" + other + ",0,0,3;", other, other, other, one);
+        first(one, other, oneStops + "4;", lowest, lowest, lowest, lowest);
+        first(one, other, oneStops + "3;", one, one, one, other);
     }
 
     @Says(promise = 32, value = "THE TABLE for g, t, k: HOUR by HOUR, in that HOUR by COUNTIES in which counting goes on:")

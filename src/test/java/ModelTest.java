@@ -49,7 +49,7 @@ public final class ModelTest {
     }
 
     private void play() {
-        while (calls < 480) {
+        while (calls < 420) {
             switch (kind == 4 ? below(4) : chance(8) ? below(4) : kind) {
                 case 0: cards(); break;
                 case 1: counts(); break;
