@@ -87,6 +87,21 @@ public final class CountsBoundaryTest extends Boundary {
         due("4 without", 1, made(cards(2, "4000 0000 0000")).counted(5, 0, 0, 0, true));
     }
 
+    @Says(promise = 13, value = "in COUNTY C (5: in all) counting stops (v 0) or goes on (v 1), from HOUR h on")
+    static void promise13_whatIsCountedDoesNotStop() {
+        Play stopped = both(forced("o5,3,0,0;v5,4,7;m3,7;"), cards(0, "4000 0000 0000", 1, "3000 0000 0000", 1, "4000 0000 0000"));
+        due("a court's order is in force", 0, made(stopped).rule(3, 1, 7));
+        due("hands", 2, made(stopped).counted(5, 0, 0, 7, false));
+        due("hands in a county", 1, made(stopped).counted(1, 0, 0, 7, false));
+        due("hands ahead of hour 7", 0, made(stopped).counted(5, 0, 0, 6, false));
+        due("a machine", 3, made(stopped).counted(5, 0, 0, 7, true));
+        due("a card", 0, made(stopped).vote(0, 0, 7, false));
+        due("a winner", 0, made(stopped).winner(0, 7, false));
+        due("least", 0, made(stopped).least(0, 0, 7));
+        due("otherwise", 2, made(stopped).otherwise(5, 0, 6, 7));
+        due("a run", 2, made(stopped).run(1, 0, 7));
+    }
+
     @Says(promise = 13, value = "there a hand reads a dimpled HOLE (1) too, if N (0 to 12; 0: never) or more HOLES of the CARD are dimpled")
     static void promise13_dimples() {
         String[] dimpled = {"1000 0000 0000", "1000 1000 0000", "1000 1111 1110", "1000 1111 1111"};

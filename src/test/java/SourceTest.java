@@ -29,6 +29,7 @@ public final class SourceTest {
 
     public static void main(String[] args) throws IOException {
         String code = withoutComments(Files.readString(SOURCE));
+        heads(code);
         face();
         classes();
         words(code);
@@ -56,6 +57,23 @@ public final class SourceTest {
         List<String> types = new ArrayList<>();
         for (Class<?> type : m.getParameterTypes()) types.add(type.getSimpleName());
         return m.getReturnType().getSimpleName() + " " + m.getName() + "(" + String.join(",", types) + ")";
+    }
+
+    /** The document's face stands in the source word for word: the class, its constants, each head with its names. */
+    private static void heads(String code) throws IOException {
+        String document = Files.readString(Path.of("../shared/DOC.md"));
+        int start = document.indexOf("```java");
+        int end = document.indexOf("```", start + 3);
+        check.due("the document's face is found", 1, start > 0 && end > start ? 1 : 0);
+        if (start < 0 || end < start) return;
+        int heads = 0;
+        for (String line : document.substring(start, end).split("\n")) {
+            if (!line.contains("public ")) continue;
+            heads++;
+            String head = line.endsWith(");") ? line.substring(0, line.length() - 1) + " {" : line;
+            check.due("rule 1: \"" + head.trim() + "\" stands", 1, found(code, "(?m)^" + Pattern.quote(head) + "$"));
+        }
+        check.due("the document's heads, the class, the constants and the constructor", FACE.length + 3, heads);
     }
 
     private static void face() {
